@@ -47,6 +47,8 @@ public final class MarshAsToldTest {
         DUE.is("HOUR 16 and 100 is 20", x.count(1), 20);
         DUE.is("PLACE 30", Due.text(x, "p130;"), 1);
         DUE.is("PLACE 30 kept", x.bell(1, 2), 30);
+        DUE.is("a RING that nobody hears", Due.text(new BellThatIsADoor(), "b5000;r0;"), 2);
+        DUE.is("from PLACE 0", Due.text(new BellThatIsADoor(), "b5000;p005;"), 2);
         BellThatIsADoor same = new BellThatIsADoor();
         DUE.is("a text of 100 bytes", Due.text(same, "b0000;b1000;b2000;b3000;b4000;b5000;"
             + "h09;h09;h09;h09;h09;h09;h09;h09;h09;h09;r0;r0;r0;r0;h99;h99;"), 22);
