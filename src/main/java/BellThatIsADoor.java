@@ -1031,6 +1031,10 @@ public final class BellThatIsADoor {
             return told(b, 1);
         }
 
+        int placeOf(int b) {
+            return told(b, 2);
+        }
+
         int rungOf(int b) {
             return told(b, 3);
         }
@@ -1044,7 +1048,7 @@ public final class BellThatIsADoor {
         }
 
         int farFrom(int b, int place) {
-            return Math.abs(told(b, 2) - place);
+            return Math.abs(placeOf(b) - place);
         }
 
         /** PLACE becomes another one: what it was. */
@@ -1207,7 +1211,7 @@ public final class BellThatIsADoor {
                     int rung = ringsFrom(marsh, b, (marsh.hour + there) % DAY_HOURS);
                     order[visited] = b;
                     if (rung > 0) {
-                        goOn(marsh, marsh.told(b, 2), left & ~(1 << b), there + rung, visited + 1);
+                        goOn(marsh, marsh.placeOf(b), left & ~(1 << b), there + rung, visited + 1);
                     }
                 }
             }
