@@ -4,11 +4,19 @@ final class Due {
     private static final int THREW_STATE = 2;
 
     private final String test;
+    private String sentence = "";
+    private int sentences;
     private int right;
     private int wrong;
 
     Due(String test) {
         this.test = test;
+    }
+
+    /** From here on the answers are those of this sentence of the document. */
+    void sentence(String told) {
+        sentence = " (\"" + told + "\")";
+        sentences++;
     }
 
     void is(String call, long got, long want) {
@@ -17,7 +25,16 @@ final class Due {
             return;
         }
         wrong++;
-        System.out.println(test + ": " + call + " answered " + got + ", due is " + want);
+        System.out.println(test + ": " + call + " answered " + got + ", due is " + want + sentence);
+    }
+
+    void same(String call, String got, String want) {
+        if (got.equals(want)) {
+            right++;
+            return;
+        }
+        wrong++;
+        System.out.println(test + ": " + call + " left " + got + ", due is " + want + sentence);
     }
 
     /** The sum of 1 << i for the numbers told: a set as bits. */
@@ -57,12 +74,17 @@ final class Due {
         }
     }
 
+    /** Puts a text into a ROW of bytes on a SHELF. */
+    static void shelve(BellThatIsADoor x, int d, String text) {
+        x.row(d, 0, text.length());
+        for (int i = 0; i < text.length(); i++) {
+            x.put(d, i, text.charAt(i));
+        }
+    }
+
     /** Puts a text on SHELF 0 and tells it to the marsh. */
     static int text(BellThatIsADoor x, String text) {
-        x.row(0, 0, text.length());
-        for (int i = 0; i < text.length(); i++) {
-            x.put(0, i, text.charAt(i));
-        }
+        shelve(x, 0, text);
         return x.marsh(0);
     }
 
@@ -78,7 +100,8 @@ final class Due {
 
     /** Prints how it went and ends the program; 1 if an answer was not as due. */
     void end() {
-        System.out.println(test + ": " + right + " answers as due, " + wrong + " not");
+        String told = sentences == 0 ? "" : " to " + sentences + " sentences";
+        System.out.println(test + ": " + right + " answers" + told + " as due, " + wrong + " not");
         System.exit(wrong == 0 ? 0 : 1);
     }
 }
