@@ -34,6 +34,7 @@ public final class BoundsOfBellsTest {
         placeBecomesAnother();
         whatIsToldOfABell();
         newObject();
+        refusedNothingChanges();
         DUE.end();
     }
 
@@ -482,5 +483,22 @@ public final class BoundsOfBellsTest {
         }
         DUE.is("restore()", x.restore(), -3);
         DUE.is("bell(0, 0)", x.bell(0, 0), -1);
+    }
+
+    private static void refusedNothingChanges() {
+        DUE.sentence("REFUSALS (answers; nothing changes) [of bell, rings, hours, moves]");
+        Told.unchanged(DUE, "bell", Samples::some, x -> x.bell(1, 4), 2);
+        Told.unchanged(DUE, "bell(3, 0)", Samples::some, x -> x.bell(3, 0), -1);
+        Told.unchanged(DUE, "bell(0, 8)", Samples::some, x -> x.bell(0, 8), -1);
+        Told.unchanged(DUE, "rings(-1)", Samples::some, x -> x.rings(-1), -1);
+        Told.unchanged(DUE, "rings(3)", Samples::some, x -> x.rings(3), -1);
+        Told.unchanged(DUE, "rings(6)", Samples::full, x -> x.rings(6), -1);
+        Told.unchanged(DUE, "moves(3, 0)", Samples::some, x -> x.moves(3, 0), -1);
+        Told.unchanged(DUE, "moves(0, 31)", Samples::some, x -> x.moves(0, 31), -1);
+        Told.unchanged(DUE, "moves(0, -1)", Samples::some, x -> x.moves(0, -1), -1);
+        Told.unchanged(DUE, "hours(0)", Samples::some, x -> x.hours(0), -1);
+        Told.unchanged(DUE, "hours(100)", Samples::last, x -> x.hours(100), -1);
+        Told.unchanged(DUE, "hours(1)", Samples::last, x -> x.hours(1), -3);
+        Told.unchanged(DUE, "hours(99)", Samples::last, x -> x.hours(99), -3);
     }
 }
