@@ -76,6 +76,20 @@ public final class BoundsOfBellsTest {
             DUE.is("FIGURE of " + b, x.bell(b, 1), b + 1);
             DUE.is("PLACE of " + b, x.bell(b, 2), 5 * b);
         }
+        BellThatIsADoor told = Due.marshOf("b6100;b0205;b7310;b3415;b5520;b4625;r0;r1;r2;r4;r5;");
+        int[] wants = {1, 1, 6, 3, 2, 2};
+        int[] steps = {8, 3, 13, 14, 4, 4};
+        for (int b = 0; b < 6; b++) {
+            DUE.is("KIND of " + b + " of a text", told.bell(b, 0), kinds[b]);
+            DUE.is("FIGURE of " + b + " of a text", told.bell(b, 1), b + 1);
+            DUE.is("PLACE of " + b + " of a text", told.bell(b, 2), 5 * b);
+            DUE.is("RUNG of " + b + " of a text", told.bell(b, 3), b == 5 ? 1 : 0);
+            DUE.is("OPENED of " + b + " of a text", told.bell(b, 4), b < 2 ? 1 : 0);
+            DUE.is("WANTS of " + b + " of a text", told.bell(b, 5), wants[b]);
+            DUE.is("STEPS of " + b + " of a text", told.bell(b, 6), steps[b]);
+            DUE.is("HOME of " + b + " of a text", told.bell(b, 7), told.home(8) >> b & 1);
+        }
+        DUE.is("HOME at 8", told.home(8), Due.bits(0, 1, 5));
     }
 
     private static void figureRange() {
@@ -349,6 +363,10 @@ public final class BoundsOfBellsTest {
         DUE.is("at 15", x.rings(0), 0);
         DUE.is("RUNG that was 0", x.bell(0, 3), 0);
         DUE.is("SUITED", one(5, 9).rings(0), 0);
+        BellThatIsADoor two = Due.marshOf("b7900;b1300;r0;r1;h04;");
+        DUE.is("the other at 12", two.rings(1), 0);
+        DUE.is("its RUNG", two.bell(1, 3), 0);
+        DUE.is("RUNG of the one", two.bell(0, 3), 1);
     }
 
     private static void rungIsOneMore() {
@@ -448,7 +466,9 @@ public final class BoundsOfBellsTest {
         DUE.is("moves(0, 30)", x.moves(0, 30), 0);
         DUE.is("to where it is", x.moves(0, 30), 30);
         DUE.is("the other", x.bell(1, 2), 4);
-        DUE.is("moves(1, 30)", x.moves(1, 30), 4);
+        DUE.is("moves(1, 29)", x.moves(1, 29), 4);
+        DUE.is("the other is there", x.bell(1, 2), 29);
+        DUE.is("the one stays", x.bell(0, 2), 30);
         DUE.is("moves(2, 0)", x.moves(2, 0), -1);
         DUE.is("moves(-1, 0)", x.moves(-1, 0), -1);
         DUE.is("both wrong", x.moves(2, 31), -1);

@@ -76,6 +76,24 @@ public final class BoundsOfErrandsTest {
         DUE.is("HOUR 9: no MAID, and RUNG is 0", x.errands(0, 2, -1), -4);
         DUE.is("the DOOR at 9, the MAID at 10", x.errands(0, 3, -1), 2);
         DUE.is("the DOOR is first", x.errands(0, 3, 0), 0);
+        BellThatIsADoor unlike = Due.marshOf("b1000;b1000;b1000;r1;");
+        DUE.is("RUNG 0", unlike.errands(0, 1, -1), 2);
+        DUE.is("RUNG 1 of the second", unlike.errands(0, 2, -1), 1);
+        DUE.is("RUNG 0 of the third", unlike.errands(0, 4, -1), 2);
+        BellThatIsADoor door = Due.marshOf("b1000;");
+        int[] hours = {2, 1, 2, 1};
+        for (int due : hours) {
+            DUE.is("as RUNG is at each call", door.errands(0, 1, -1), due);
+            door.rings(0);
+        }
+        door.image();
+        DUE.is("a DOOR", door.errands(0, 1, -1), 2);
+        Due.text(door, "p030;b2000;");
+        DUE.is("its PLACE at each call", door.errands(0, 1, -1), 18);
+        DUE.is("a HEN", door.errands(0, 2, -1), 1);
+        door.restore();
+        Due.text(door, "b5000;");
+        DUE.is("another one at each call", door.errands(0, 2, -1), -4);
     }
 
     private static void hourGoesRound() {
@@ -90,21 +108,56 @@ public final class BoundsOfErrandsTest {
 
     private static void twoHundredHours() {
         DUE.sentence("200 HOURS at most");
-        // An errand that ends takes 149 HOURS at most, as far as was found: the bound is told by those that never end.
-        int latest = 0;
-        for (int k = 0; k < 8; k++) {
-            for (int f = 0; f <= 9; f++) {
-                BellThatIsADoor one = Due.marshOf("b" + k + f + "30;");
-                for (int hour = 0; hour < 24; hour++) {
-                    latest = Math.max(latest, one.errands(0, 1, -1));
-                    one.hours(1);
+        // Whoever opens at all does so within 31 HOURS, and six of them with the longest ways between take 156.
+        int[][] waits = waitsOfAll();
+        int[] behind = new int[24];
+        int[] due = {34, 60, 84, 108, 132, 156};
+        for (int legs = 0; legs < due.length; legs++) {
+            behind = withALegMore(waits, behind);
+            int most = 0;
+            for (int hours : behind) {
+                most = Math.max(most, hours);
+            }
+            DUE.is("the most HOURS of " + (legs + 1) + " BELLS by any order", most, due[legs]);
+        }
+        DUE.is("one of three never opens", Due.marshOf("b2000;b5000;b2000;").errands(0, 7, -1), -4);
+        DUE.is("without that one", Due.marshOf("b2000;b5000;b2000;").errands(0, 5, -1), 2);
+        BellThatIsADoor six = Due.marshOf("b7930;b7900;b7930;b7900;b7930;b7900;h01;");
+        DUE.is("six MARBLES, three by three", six.errands(0, 63, -1), 6 * 24 - 2);
+    }
+
+    /** By KIND, FIGURE and RUNG: how many HOURS one rings till it opens, by the HOUR when he begins; -4 never. */
+    private static int[][] waitsOfAll() {
+        int[][] waits = new int[8 * 10 * 10][24];
+        for (int one = 0; one < waits.length; one++) {
+            BellThatIsADoor x = Due.marshOf("b" + one / 100 + one / 10 % 10 + "00;");
+            for (int i = 0; i < 24 && x.bell(0, 7) == 0; i++) {
+                x.hours(1);
+            }
+            for (int rung = 0; rung < one % 10 && x.bell(0, 3) == rung && rung + 1 < x.bell(0, 5); rung++) {
+                x.rings(0);
+            }
+            for (int i = 0; i < 24; i++) {
+                waits[one][x.count(1)] = x.errands(0, 1, -1);
+                x.hours(1);
+            }
+        }
+        return waits;
+    }
+
+    /** By the HOUR when he begins: the most HOURS of a way (0 .. 3 HOURS), of one of them, of what is behind it. */
+    private static int[] withALegMore(int[][] waits, int[] behind) {
+        int[] most = new int[24];
+        for (int hour = 0; hour < 24; hour++) {
+            for (int way = 0; way <= 3; way++) {
+                for (int[] one : waits) {
+                    int wait = one[(hour + way) % 24];
+                    int all = wait < 0 ? 0 : way + wait + behind[(hour + way + wait) % 24];
+                    most[hour] = Math.max(most[hour], all);
                 }
             }
         }
-        // A MARBLE of FIGURE 9 from 21 on: nine rings 0 to 8, none at 9, two at 12, ten from 21 on to 6.
-        DUE.is("the longest to one BELL", latest, 34);
-        DUE.is("one of three never opens", Due.marshOf("b2000;b5000;b2000;").errands(0, 7, -1), -4);
-        DUE.is("without that one", Due.marshOf("b2000;b5000;b2000;").errands(0, 5, -1), 2);
+        return most;
     }
 
     private static void errandOfNone() {

@@ -181,6 +181,10 @@ public final class BoundsOfFeetTest {
         odds(x, 0, 3, 3, 26, 27);
         odds(x, 1, 3, 3, 8, 27);
         odds(x, 1, 4, 3, 32, 81);
+        BellThatIsADoor come = new BellThatIsADoor();
+        come.keep(0, 1, 1, 5);
+        come.comes(0, 0);
+        odds(come, 0, 2, 3, 4, 9);
     }
 
     private static void leastTerms() {

@@ -63,6 +63,25 @@ public final class BoundsOfImageTest {
         Due.text(x, "b3900;");
         DUE.is("another one there is rung anew", x.bell(0, 3), 0);
         DUE.is("and has not opened", x.bell(0, 4), 0);
+        x.behind(0, 9, 0);
+        x.restore();
+        DUE.is("days: there are none", x.days(1, 1, 0), -3);
+        DUE.is("bell: no such one", x.bell(0, 0), -1);
+        DUE.is("rings", x.rings(0), -1);
+        DUE.is("moves", x.moves(0, 0), -1);
+        DUE.is("hoursOf", x.hoursOf(0), -1);
+        DUE.is("behind", x.behind(0, 1, 0), -1);
+        DUE.is("soonest", x.soonest(0), -1);
+        DUE.is("fewest", x.fewest(0, 1), -1);
+        DUE.is("errands", x.errands(0, 1, -1), -1);
+        DUE.is("odds", x.odds(0, 1, 2, 0), 1000000001L);
+        x.row(0, 0, 0);
+        DUE.is("whatRang", x.whatRang(0, 0, 0), -1);
+        DUE.is("tell", x.tell(0, 0, 0), -1);
+        DUE.is("mean: 0 by 1 of none", x.mean(1), 1);
+        DUE.is("nearest: none", x.nearest(0, 0), -4);
+        DUE.is("first: none", x.first(), -4);
+        DUE.is("home: none", x.home(0), 0);
     }
 
     private static void imageOfAllThatIsFull() {

@@ -13,6 +13,7 @@ public final class BoundsOfRangTest {
         figuresAsBits();
         nothingTold();
         rungAsNow();
+        figureAndKindOfTheOne();
         rangIsRefused();
         tellsMost();
         tellsWithRungNone();
@@ -157,6 +158,24 @@ public final class BoundsOfRangTest {
         DUE.is("a HEN", rang(x, 0, 0, 100, 100), Due.bits(2));
         DUE.is("MARBLES of FIGURES that open at 8: none HOME but 9", rang(x, 0, 1, 125), Due.bits(9));
         DUE.is("the others", rang(x, 0, 1, 0), 511);
+        DUE.is("another's FIGURES: 2 of 25 by 10", rang(x, 1, 1, 2), Due.bits(9));
+    }
+
+    private static void figureAndKindOfTheOne() {
+        DUE.sentence("KINDS (bits) of it .. FIGURES (bits 0 .. 9) [with the FIGURE, the KIND of the one]");
+        BellThatIsADoor x = Due.marshOf("b2000;b0300;b6900;");
+        DUE.is("BELL of FIGURE 3", rang(x, 1, 0, 104), Due.bits(0));
+        DUE.is("a BELL's FIGURES", rang(x, 1, 1, 104), Due.bits(3));
+        DUE.is("a HEN's FIGURES", rang(x, 0, 1, 100), 1023);
+        DUE.is("an ECHO's FIGURES at 8: STEPS 8 of FIGURE 1", rang(x, 2, 1, 108), Due.bits(1));
+        DUE.is("none of FIGURE 0", rang(x, 0, 0, 104), 0);
+        Due.list(x, 1, 2, 104);
+        DUE.is("one alone is told of a BELL of FIGURE 3", x.tell(1, 1, 1), 1);
+        DUE.is("none of a HEN of FIGURE 0", x.tell(1, 0, 1), 0);
+        // FIGURE 9: five unlike first at 10; FIGURE 0: BELL 101, DOOR 1, HEN 100, ECHO 109, others 0 or 1 at 0.
+        x.row(1, 0, 0);
+        DUE.is("FIGURE 9", x.tell(1, 2, 0), 10);
+        DUE.is("FIGURE 0", x.tell(1, 0, 0), 0);
     }
 
     private static void rangIsRefused() {

@@ -95,7 +95,15 @@ final class Due {
         if (statements < 1) {
             throw new IllegalStateException("the text of a test is at fault: " + text + " " + statements);
         }
+        beUnsettled(x);
         return x;
+    }
+
+    /** A text with a FAULT behind other BELLS and HOURS: what follows must not see what came in mind alone. */
+    static void beUnsettled(BellThatIsADoor x) {
+        shelve(x, 7, "r0;h13;b2900;b5900;r9;");
+        x.marsh(7);
+        x.keep(7, 0, 0, 0);
     }
 
     /** Prints how it went and ends the program; 1 if an answer was not as due. */

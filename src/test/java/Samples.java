@@ -56,6 +56,7 @@ final class Samples {
     }
 
     private static BellThatIsADoor shelved(BellThatIsADoor x) {
+        Due.beUnsettled(x);
         Due.shelve(x, TEXT, "b2000;h01;");
         Due.list(x, SHORTS, 1, 100, -32768, 300);
         Due.list(x, INTS, 2, 1, 70000);
