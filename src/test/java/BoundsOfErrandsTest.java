@@ -86,6 +86,14 @@ public final class BoundsOfErrandsTest {
             DUE.is("as RUNG is at each call", door.errands(0, 1, -1), due);
             door.rings(0);
         }
+        BellThatIsADoor early = Due.marshOf("b1000;h16;");
+        DUE.is("the first of all at HOUR 0", early.errands(0, 1, -1), 2);
+        early.rings(0);
+        DUE.is("the first of all at HOUR 0, RUNG 1", early.errands(0, 1, -1), 1);
+        BellThatIsADoor late = Due.marshOf("b2000;b2000;b2000;b2000;b2000;b3000;h15;");
+        DUE.is("the last of all at HOUR 23", late.errands(0, 32, -1), 15);
+        late.rings(5);
+        DUE.is("the last of all at HOUR 23, RUNG 1", late.errands(0, 32, -1), 1);
         door.image();
         DUE.is("a DOOR", door.errands(0, 1, -1), 2);
         Due.text(door, "p030;b2000;");
