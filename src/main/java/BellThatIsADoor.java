@@ -191,7 +191,7 @@ public final class BellThatIsADoor {
         int all = (1 << now.size) - 1;
         int bits = NONE;
         for (int many = 0; many <= MOST_HOURS_FOR_ALL && bits < 0; many++) {
-            bits = leastHoursFor(all, many, DAY_HOURS);
+            bits = leastHoursFor(homeByHour, all, many, DAY_HOURS);
         }
         return bits;
     }
@@ -685,12 +685,12 @@ public final class BellThatIsADoor {
     }
 
     /** The least bits of so many HOURS below one at which all who are wanted are HOME; NONE. */
-    private int leastHoursFor(int wanted, int many, int below) {
+    private static int leastHoursFor(int[] homeByHour, int wanted, int many, int below) {
         if (many <= 0) {
             return wanted == 0 ? 0 : NONE;
         }
-        for (int top = 0; top < below && top < DAY_HOURS; top++) {
-            int rest = leastHoursFor(wanted & ~homeByHour[top], many - 1, top);
+        for (int top = 0; top < below && top < homeByHour.length; top++) {
+            int rest = leastHoursFor(homeByHour, wanted & ~homeByHour[top], many - 1, top);
             if (rest >= 0) {
                 return rest | 1 << top;
             }
@@ -1186,7 +1186,7 @@ public final class BellThatIsADoor {
             }
             fewestHours = ERRAND_HOURS + 1;
             many = 0;
-            goOn(marsh, from, set, 0, 0);
+            goOn(this, marsh, from, set, 0, 0);
         }
 
         int hoursNeeded() {
@@ -1197,21 +1197,22 @@ public final class BellThatIsADoor {
             return i >= 0 && i < many ? best[i] : NONE;
         }
 
-        private void goOn(Marsh marsh, int place, int left, int hours, int visited) {
-            if (hours >= fewestHours) {
+        // Static, as a method that calls itself has to be: the way is an argument.
+        private static void goOn(Errand way, Marsh marsh, int place, int left, int hours, int visited) {
+            if (hours >= way.fewestHours) {
                 return;
             }
             if (left == 0) {
-                keepOrder(hours, visited);
+                way.keepOrder(hours, visited);
                 return;
             }
             for (int b = 0; b < ROOM && visited < ROOM; b++) {
                 if ((left >> b & 1) != 0) {
                     int there = hours + wayHours(marsh.farFrom(b, place));
-                    int rung = ringsFrom(marsh, b, (marsh.hour + there) % DAY_HOURS);
-                    order[visited] = b;
+                    int rung = way.ringsFrom(marsh, b, (marsh.hour + there) % DAY_HOURS);
+                    way.order[visited] = b;
                     if (rung > 0) {
-                        goOn(marsh, marsh.placeOf(b), left & ~(1 << b), there + rung, visited + 1);
+                        goOn(way, marsh, marsh.placeOf(b), left & ~(1 << b), there + rung, visited + 1);
                     }
                 }
             }
